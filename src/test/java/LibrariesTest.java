@@ -46,14 +46,15 @@ public final class LibrariesTest {
     due.refused(x, "2 library(0, 100000)", 3, x.library(0, 100000), NO);
     due.is("2 count(1)", x.count(1), 0);
     for (int i = 0; i < 12; i++) {
-      due.is("2 library " + i, x.library(i % 4, i == 0 ? 1 : 99999 - i), i);
+      due.is("2 library " + i, x.library(i % 4, i == 0 ? 1 : 100000 - i), i);
     }
     due.refused(x, "2 library(0, 0) as there is no room", 4, x.library(0, 0), NO);
     due.refused(x, "2 library(0, 1) as there is no room", 0, x.library(0, 1), FULL);
     due.is("2 count(1)", x.count(1), 12);
     due.is("2 look(0, 1)", x.look(0, 1), 1);
     due.is("2 look(11, 0)", x.look(11, 0), 3);
-    due.is("2 look(11, 1)", x.look(11, 1), 99988);
+    due.is("2 look(1, 1)", x.look(1, 1), 99999);
+    due.is("2 look(11, 1)", x.look(11, 1), 99989);
   }
 
   private static void draw() {

@@ -56,10 +56,24 @@ public final class RandomRunsTest {
       }
       one(living[random.nextInt(living.length)]);
     }
+    sweep();
     for (int by = -8; fine && by <= -2; by++) {
       call("status", by);
     }
     return fine;
+  }
+
+  /** What all closed YEARS left behind. */
+  private void sweep() throws Exception {
+    for (int y = 0; y < plain.count(0); y++) {
+      for (int what = 5; what <= 8; what++) {
+        call("year", y, what);
+      }
+      for (int p = 0; p < plain.count(3); p++) {
+        call("paid", y, p, 0);
+        call("paid", y, p, 3);
+      }
+    }
   }
 
   /** A YEAR as it would be told by a land that pays. */
@@ -194,6 +208,9 @@ public final class RandomRunsTest {
   }
 
   private String ruleText() {
+    if (chance(5)) {
+      return "late " + random.nextInt(9);
+    }
     String key = PlainRules.KEYS.get(random.nextInt(6));
     int plainly = chance(2) ? 0 : 1 + random.nextInt(3);
     String body = switch (key) {
