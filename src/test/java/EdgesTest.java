@@ -101,6 +101,9 @@ public final class EdgesTest {
     due.is("8 look(0, 3)", x.look(0, 3), 7);
     due.is("6 put(0, 11, 29, 6)", x.put(0, 11, 29, 6), 5);
     due.is("34 moved(0, 1129)", x.moved(0, 1129), 0);
+    due.is("35 movedMany(0)", x.movedMany(0), 0);
+    due.is("28 book(0, 29)", x.book(0, 29), 100);
+    due.is("28 book(0, 0)", x.book(0, 0), 0);
     due.is("36 span(0, 29, 1)", x.span(0, 29, 1), 100 * 9 / 6);
     due.is("32 bestDraw(12)", x.bestDraw(12), 4095);
     due.is("32 bestDraw(4)", x.bestDraw(4), 15);
@@ -137,6 +140,13 @@ public final class EdgesTest {
     x.died(9, -1);
     x.heir(9, 19, 50);
     due.is("29 points(0, 19) with an HEIR's", x.points(0, 19), 126);
+    due.is("13 heir(19, 0, 30)", x.heir(19, 0, 30), 0);
+    due.is("16 personOf(18, 5)", x.personOf(18, 5), 100);
+    due.is("16 personOf(19, 5)", x.personOf(19, 5), 30);
+    x.died(19, -1);
+    due.is("29 points(0, 0) with an HEIR's", x.points(0, 0), 12 + 36 + 1);
+    x.heir(9, 19, 0);
+    due.is("29 points(0, 0) with an HEIR's", x.points(0, 0), 12 + 36);
   }
 
   private static void lastShare() {
@@ -145,6 +155,8 @@ public final class EdgesTest {
       x.share(s / 2, 10 * (s % 20) + s % 5, 50);
     }
     due.is("14 the 60th", x.count(4), 60);
+    due.is("15 editionOf(29, 4)", x.editionOf(29, 4), 100);
+    due.is("15 editionOf(0, 4)", x.editionOf(0, 4), 100);
     x.lent(1, 29, 1);
     x.all(1, 10);
     due.is("29 points(0, 19)", x.points(0, 19), 60);
