@@ -878,10 +878,12 @@ public final class LoanPence {
             return false;
         }
 
+        /** A SHARE comes to the ONE of its PERSON, so writers that were JOINED are one writer. */
         private boolean haveCommonWriter(int a, int b) {
             for (int s = 0; s < shares.many; s++) {
+                int one = people.oneOf[shares.person[s]];
                 for (int t = 0; shares.isWriters(s, a) && t < shares.many; t++) {
-                    if (shares.isWriters(t, b) && shares.person[s] == shares.person[t]) {
+                    if (shares.isWriters(t, b) && people.oneOf[shares.person[t]] == one) {
                         return true;
                     }
                 }

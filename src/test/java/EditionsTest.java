@@ -16,6 +16,7 @@ public final class EditionsTest {
     personOf();
     shareOf();
     sameEditions();
+    sameOfJoinedWriters();
     samePersons();
     sameRefused();
     joinEditions();
@@ -229,6 +230,46 @@ public final class EditionsTest {
     for (int[] w : want) {
       due.is("18 same(0, " + w[0] + ", " + w[1] + ")", x.same(0, w[0], w[1]), w[2]);
     }
+  }
+
+  private static void sameOfJoinedWriters() {
+    LoanPence x = new LoanPence();
+    x.person(5, 0, -100); // 0
+    x.person(5, 0, -20); // 1
+    x.person(5, 0, -100); // 2
+    x.person(5, 0, -100); // 3: joined to nobody
+    x.edition(0, 1, -10); // 0: writer 1
+    x.edition(0, 1, -10); // 1: writer 2
+    x.edition(0, 1, -10); // 2: writer 3, drawer 0
+    x.edition(0, 1, -30); // 3: writer 2, PRINTED ahead of 1's birth
+    x.edition(0, 1, -30); // 4: writer 0, PRINTED ahead of 1's birth
+    x.edition(0, 2, -10); // 5: writer 2, another TITLE
+    x.share(0, 10, 50);
+    x.share(1, 20, 50);
+    x.share(2, 30, 50);
+    x.share(2, 1, 50);
+    x.share(3, 20, 50);
+    x.share(4, 0, 50);
+    x.share(5, 20, 50);
+    due.is("18 same(0, 0, 1) of two writers", x.same(0, 0, 1), 0);
+    due.refused(x, "19 join(0, 0, 1) of two writers", 0, x.join(0, 0, 1), NO);
+    x.image();
+    x.join(1, 1, 2);
+    due.is("18 same(0, 0, 1), 2 JOINED to 1", x.same(0, 0, 1), 2);
+    due.is("18 same(0, 3, 4), 0 not JOINED to 2", x.same(0, 3, 4), 0);
+    x.join(1, 0, 1);
+    int[][] want = {
+      {0, 1, 2}, {1, 0, 2}, // both their ONE is 0, which writes neither
+      {0, 2, 0}, {1, 2, 0}, // 3 is another ONE; 0 only draws 2
+      {0, 3, 0}, {3, 0, 0}, // one writer, but 3 was PRINTED ahead of 1's birth
+      {3, 4, 2}, {1, 3, 2}, {1, 4, 2}, // 0's and 2's own BORN isn't known
+      {1, 5, 0}}; // unlike TITLES
+    for (int[] w : want) {
+      due.is("18 same(0, " + w[0] + ", " + w[1] + ") of JOINED writers", x.same(0, w[0], w[1]), w[2]);
+    }
+    due.is("19 join(0, 0, 1) of JOINED writers", x.join(0, 0, 1), 0);
+    x.back();
+    due.is("18 same(0, 0, 1), JOINED no longer", x.same(0, 0, 1), 0);
   }
 
   private static void samePersons() {

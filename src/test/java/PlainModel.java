@@ -420,11 +420,19 @@ final class PlainModel {
     return set;
   }
 
+  private TreeSet<Integer> ones(TreeSet<Integer> persons) {
+    TreeSet<Integer> set = new TreeSet<>();
+    for (int p : persons) {
+      set.add(one(p));
+    }
+    return set;
+  }
+
   private int sameEditions(int a, int b) {
     TreeSet<Integer> ofA = writers(a);
     TreeSet<Integer> ofB = writers(b);
-    TreeSet<Integer> common = new TreeSet<>(ofA);
-    common.retainAll(ofB);
+    TreeSet<Integer> common = ones(ofA);
+    common.retainAll(ones(ofB));
     Edition x = s.editions.get(a);
     Edition y = s.editions.get(b);
     boolean never = x.title() != y.title() || !ofA.isEmpty() && !ofB.isEmpty() && common.isEmpty();
