@@ -57,6 +57,8 @@ public final class RandomRunsTest {
       one(living[random.nextInt(living.length)]);
     }
     sweep();
+    sweepSame(0, plain.count(2));
+    sweepSame(1, plain.count(3));
     for (int by = -8; fine && by <= -2; by++) {
       call("status", by);
     }
@@ -72,6 +74,15 @@ public final class RandomRunsTest {
       for (int p = 0; p < plain.count(3); p++) {
         call("paid", y, p, 0);
         call("paid", y, p, 3);
+      }
+    }
+  }
+
+  /** Single calls seldom meet two that are alike in all but one thing; all pairs do. */
+  private void sweepSame(int what, int many) throws Exception {
+    for (int a = 0; a < many; a++) {
+      for (int b = 0; b < many; b++) {
+        call("same", what, a, b);
       }
     }
   }
