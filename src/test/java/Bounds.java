@@ -50,6 +50,13 @@ final class Bounds {
     }
   }
 
+  /** Two ways that lead to lands of which all that can be asked is alike, but for status(). */
+  void alike(String sentence, String one, String other) {
+    List<Row> ofOne = rowsOf(new String[] {one});
+    List<Row> ofOther = rowsOf(new String[] {other});
+    holdAlike(sentence, callsOf(ofOne, ofOne.size()), callsOf(ofOther, ofOther.size()));
+  }
+
   /** A text for each number below n, put in for the sign #. */
   static String each(int n, String text) {
     StringBuilder all = new StringBuilder();
@@ -131,46 +138,60 @@ final class Bounds {
 
   // ---- twins
 
-  /** An object after the first so many rows, and perhaps one call more. */
-  private static LoanPence after(List<Row> rows, int many, Call more) {
+  private static List<Call> callsOf(List<Row> rows, int many) {
+    List<Call> calls = new ArrayList<>();
+    for (Row row : rows.subList(0, many)) {
+      calls.add(row.call());
+    }
+    return calls;
+  }
+
+  private static List<Call> with(List<Call> calls, List<Call> more) {
+    List<Call> all = new ArrayList<>(calls);
+    all.addAll(more);
+    return all;
+  }
+
+  private static LoanPence after(List<Call> calls) {
     LoanPence x = new LoanPence();
-    for (int i = 0; i < many; i++) {
-      rows.get(i).call().ask(x);
-    }
-    if (more != null) {
-      more.ask(x);
-    }
+    calls.forEach(call -> call.ask(x));
     return x;
   }
 
   private void holdAgainstTwin(String text, List<Row> rows, int at) {
     Row row = rows.get(at);
-    LoanPence spared = after(rows, at, null);
-    LoanPence refused = after(rows, at, row.call());
+    List<Call> spared = callsOf(rows, at);
+    List<Call> refused = callsOf(rows, at + 1);
+    LoanPence x = after(spared);
+    LoanPence y = after(refused);
     for (int by = -8; by <= -2; by++) {
-      due.is(text + ", status(" + by + ")", refused.status(by), spared.status(by) + (by == row.by() ? 1 : 0));
+      due.is(text + ", status(" + by + ")", y.status(by), x.status(by) + (by == row.by() ? 1 : 0));
     }
-    lookAtBoth(text, rows, at, List.of(), Sight.of(after(rows, at, null)));
-    for (Sight.Deed deed : Sight.deeds(spared.count(0))) {
-      lookAtBoth(text, rows, at, deed.done(), deed.asked());
+    holdAlike(text + " refused", spared, refused);
+    if (spared.stream().anyMatch(call -> call.name().equals("image"))) {
+      List<Call> back = List.of(new Call("back"));
+      holdAlike(text + " refused, then back()", with(spared, back), with(refused, back));
     }
-    if (rows.subList(0, at).stream().anyMatch(r -> r.call().name().equals("image"))) {
-      Call back = new Call("back");
-      lookAtBoth(text, rows, at, List.of(back), Sight.of(after(rows, at, back)));
+  }
+
+  private void holdAlike(String text, List<Call> one, List<Call> other) {
+    lookAtBoth(text, one, other, Sight.of(after(one)));
+    for (Sight.Deed deed : Sight.deeds(after(one).count(0))) {
+      Call done = deed.done();
+      due.is(text + ", then " + done.text(), done.ask(after(other)), done.ask(after(one)));
+      lookAtBoth(text + ", then " + done.text(), with(one, List.of(done)), with(other, List.of(done)), deed.asked());
     }
   }
 
   /** Asks as much of one pair of twins as they may be asked, then makes the next pair. */
-  private void lookAtBoth(String text, List<Row> rows, int at, List<Call> done, List<Call> asked) {
-    int room = Call.MOST - at - 1 - done.size();
+  private void lookAtBoth(String text, List<Call> one, List<Call> other, List<Call> asked) {
+    int room = Call.MOST - Math.max(one.size(), other.size());
     due.holds(text + " leaves no room to look", room > 0);
     for (int from = 0; room > 0 && from < asked.size(); from += room) {
-      List<Call> calls = new ArrayList<>(done);
-      calls.addAll(asked.subList(from, Math.min(asked.size(), from + room)));
-      LoanPence spared = after(rows, at, null);
-      LoanPence refused = after(rows, at, rows.get(at).call());
-      for (Call call : calls) {
-        due.is(text + " refused, then " + call.text(), call.ask(refused), call.ask(spared));
+      LoanPence x = after(one);
+      LoanPence y = after(other);
+      for (Call call : asked.subList(from, Math.min(asked.size(), from + room))) {
+        due.is(text + ", then " + call.text(), call.ask(y), call.ask(x));
       }
     }
   }

@@ -12,6 +12,7 @@ public final class DrawBoundsTest {
     judge();
     movedRefused();
     movedMany();
+    movedOfAll();
     movedAbove();
     movedRoots();
     movedPairs();
@@ -89,6 +90,13 @@ public final class DrawBoundsTest {
     bounds.hold("35 of no LIBRARY, of no EDITION", "movedMany(0) = 0; library(0, 1); draw(1); movedMany(0) = 0; edition(0, 1, 0); movedMany(0) = 0; lent(0, 0, 9); movedMany(0) = 0");
   }
 
+  private static void movedOfAll() {
+    String all = "11 * library(0, 1); library(3, 1); 30 * edition(0, 1, 0); draw(4095);";
+    // e is 0, 3 pairs: above 3
+    bounds.hold("35 of all LIBRARIES, of all EDITIONS", all, "lent(0, 0, 99); lent(5, 5, 99); lent(11, 29, 1); movedMany(0) = 2; close(); put(0, 11, 29, 99); movedMany(0) = 3; moved(0, 1129) = 1; moved(0, 1128) = 0",
+        "moved(0, 1130) = BEYOND; moved(0, 1200) = BEYOND; look(11, 3) = 0; span(0, 29, 1) = 0; all(3, 9); lent(11, 29, 4); look(11, 3) = 4; estimate(1, 29, 1) = 9; span(1, 29, 1) = 15; span(1, 29, 0) = 4");
+  }
+
   private static final String TWO = "2 * library(0, 1); 2 * edition(0, 1, 0); draw(3);";
 
   private static void movedAbove() {
@@ -144,6 +152,8 @@ public final class DrawBoundsTest {
       String lent = (s[0] > 0 ? "lent(0, 0, " + s[0] + ");" : "") + (s[0] < 10 ? "lent(0, 1, " + (10 - s[0]) + ");" : "");
       bounds.hold("36 the greatest whole number whose square is c at most: c is " + s[0], ten, lent, "span(0, 0, 0) = " + s[1] + "; span(0, 0, 1) = " + s[2]);
     }
+    bounds.hold("36 by ALL of that YEAR", Lands.SMALL, "all(0, 100); lent(0, 0, 4); close(); all(0, 200); lent(0, 0, 4); close(); all(0, 300); lent(0, 0, 4)",
+        "span(0, 0, 0) = 50; span(1, 0, 0) = 100; span(2, 0, 0) = 150; span(2, 0, 1) = 525; span(1, 0, 1) = 350");
     bounds.hold("36 cut", Lands.writers(2), "lent(0, 0, 2); lent(0, 1, 1); all(0, 2); span(0, 0, 0) = 0; span(0, 0, 1) = 2; all(0, 3); span(0, 0, 0) = 1; span(0, 0, 1) = 4; all(0, 0); span(0, 0, 1) = 0");
     // in each REGION 2 by 3 and 8 by 3 of ALL
     bounds.hold("36 together, each cut", "library(0, 1); library(3, 1); 2 * edition(0, 1, 0); draw(3); all(0, 2); all(3, 2); lent(0, 0, 2); lent(0, 1, 1); span(0, 0, 1) = 2",
@@ -165,10 +175,21 @@ public final class DrawBoundsTest {
         "count(0) = 40; count(1) = 12; count(2) = 30; count(3) = 20; count(4) = 60; count(5) = 12; count(6) = 0; count(7) = 120; count(8) = 30; count(9) = 20; count(10) = 12; count(11) = NO");
   }
 
+  /** Calls that change all that there is in the rich land. */
+  private static final String ALL_ELSE = "wipe(); tape most 50 if year<9; rule(0, 50); tape late 1; rule(0, 50); tape who title; rule(0, 50);"
+      + "put(0, 1, 2, 9); put(0, 1, 0, 1); lent(0, 1, 4); library(3, 9); edition(2, 2, 1); person(5, 2, -7); share(3, 30, 100); share(1, 4, 9);"
+      + "heir(2, 3, 30); heir(0, 1, 10); heir(0, 2, 20); died(3, -3); died(0, -2); join(0, 1, 0); person(8, 0, -100); join(1, 1, 4); all(0, 9); all(1, 70); fund(300);"
+      + "close(); draw(13); lent(3, 3, 4); close(); fund(8);";
+
   private static void image() {
     bounds.hold("39 MISSING", "back() = MISSING; library(0, 1); back() = MISSING; count(1) = 1; image() = 0; library(0, 1); back() = 0; count(1) = 1; back() = 0");
     bounds.hold("39 MISSING in a land of much", Lands.SMALL, "lay(2); set(0, 4); tape who; lent(0, 0, 1); back() = MISSING; close(); back() = MISSING");
     bounds.hold("38 the open YEAR", "image() = 0; close(); image() = 1; close(); back() = 1; 39 * close(); image() = 40; back() = 40; close() = FULL");
+    bounds.alike("39 all is again as it was kept", Lands.RICH + "image(); wipe(); tear()",
+        Lands.RICH + "image();" + ALL_ELSE + "back(); wipe(); tear()");
+    bounds.alike("39 and again", Lands.RICH + "image(); wipe(); tear()",
+        Lands.RICH + "image();" + ALL_ELSE + "back();" + ALL_ELSE + "close(); back(); wipe(); tear()");
+    bounds.hold("38 all else can be done behind it", Lands.RICH, "image()", ALL_ELSE, "count(0) = 3; back() = 1; count(0) = 1");
     bounds.hold("38 but THE ROW, THE TAPE, status()", "lay(2); set(1, 7); tape who; image() = 0; lay(3); set(1, 8); tape  1; tear(); count(99) = NO; back() = 0; row(0) = 0 MISSING; count(7) = 5; rule(0, 1) = 0",
         "status(-7) = 1; status(-2) = 1; back() = 0; count(5) = 0; lay(1); back() = 0; row(0) = 0; tear() = 1");
     bounds.hold("38 the latest image alone", "image(); library(0, 1); image(); library(0, 1); back(); count(1) = 1; back(); count(1) = 1");

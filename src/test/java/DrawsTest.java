@@ -19,7 +19,6 @@ public final class DrawsTest {
     span();
     count();
     image();
-    imageKeepsAll();
     due.end();
   }
 
@@ -310,85 +309,5 @@ public final class DrawsTest {
     due.is("39 back() again", x.back(), 2);
     due.is("39 count(1)", x.count(1), 1);
     due.is("39 count(0)", x.count(0), 2);
-  }
-
-  /** All that can be asked, as one number, but what the image leaves out. */
-  private static long sight(LoanPence x) {
-    long h = 7;
-    for (int what = 0; what <= 10; what++) {
-      h = 31 * h + (what == 7 ? 0 : x.count(what));
-    }
-    for (int y = 0; y <= x.count(0); y++) {
-      for (int what = 0; what <= 8; what++) {
-        h = 31 * h + x.year(y, what);
-      }
-      for (int p = 0; p < x.count(3); p++) {
-        h = 31 * h + x.points(y, p);
-        for (int what = 0; what <= 3 && y < x.count(0); what++) {
-          h = 31 * h + x.paid(y, p, what);
-        }
-      }
-      for (int e = 0; e < x.count(2); e++) {
-        h = 31 * h + x.estimate(y, e, x.count(0));
-        h = 31 * h + x.known(y, 100 + e, x.count(0)) * 7 + x.known(y, 100 + e, 0);
-      }
-      for (int k = 0; k < 6; k++) {
-        h = 31 * h + x.says(k, y, 0) * 7L + x.why(k, y, -1);
-      }
-    }
-    for (int e = 0; e < x.count(2); e++) {
-      for (int what = 0; what <= 4; what++) {
-        h = 31 * h + x.editionOf(e, what);
-      }
-    }
-    for (int p = 0; p < x.count(3); p++) {
-      for (int what = 0; what <= 5; what++) {
-        h = 31 * h + x.personOf(p, what);
-      }
-    }
-    for (int s = 0; s < x.count(4); s++) {
-      for (int what = 0; what <= 4; what++) {
-        h = 31 * h + x.shareOf(s, what);
-      }
-    }
-    for (int l = 0; l < x.count(1); l++) {
-      for (int what = 0; what <= 3; what++) {
-        h = 31 * h + x.look(l, what);
-      }
-    }
-    return h;
-  }
-
-  private static void imageKeepsAll() {
-    LoanPence x = full();
-    long before = sight(x);
-    x.image();
-    Tapes.rule(x, "most 50 if year < 9", 0, 50);
-    Tapes.rule(x, "late 1", 0, 50);
-    Tapes.rule(x, "who title", 0, 50);
-    x.put(0, 1, 2, 9);
-    x.put(0, 1, 0, 1);
-    x.library(3, 9);
-    x.draw(5);
-    x.edition(2, 2, 1);
-    x.person(5, 2, -7);
-    x.lent(2, 3, 4);
-    x.share(3, 40, 100);
-    x.heir(2, 3, 30);
-    x.heir(2, 0, 10);
-    x.died(3, -3);
-    x.join(0, 0, 1);
-    x.join(1, 0, 1);
-    x.all(1, 70);
-    x.fund(300);
-    x.close();
-    x.close();
-    due.holds("38 all has changed", sight(x) != before);
-    x.back();
-    due.is("39 all is as it was", sight(x), before);
-    x.fund(1);
-    due.holds("38 one thing has changed", sight(x) != before);
-    x.back();
-    due.is("39 all is as it was, again", sight(x), before);
   }
 }

@@ -170,6 +170,10 @@ public final class PersonBoundsTest {
     bounds.hold("18 EDITIONS: each has a writer's SHARE, and none is common", "2 * edition(0, 1, 0); 2 * person(1, 0, -100)",
         "same(0, 0, 1) = 1; share(0, 0, 9); same(0, 0, 1) = 1; same(0, 1, 0) = 1; share(1, 1, 9); same(0, 0, 1) = 1",
         "share(1, 10, 9); same(0, 0, 1) = 0; same(0, 1, 0) = 0; share(1, 0, 9); same(0, 0, 1) = 2; same(0, 1, 0) = 2");
+    bounds.hold("18 EDITIONS: the second has a writer's SHARE, the first has none", "3 * edition(0, 1, 0); person(1, 0, -100)",
+        "share(1, 0, 9); same(0, 0, 1) = 1; same(0, 1, 0) = 1; share(2, 0, 9); same(0, 0, 2) = 1; same(0, 1, 2) = 2; same(0, 0, 1) = 1");
+    bounds.hold("18 EDITIONS: with all SHARES", "3 * edition(0, 1, 0); 2 * person(1, 0, -100); 58 * share(0, 1, 1); share(1, 0, 1); share(2, 10, 1); count(4) = 60",
+        "same(0, 0, 1) = 1; same(0, 0, 2) = 1; same(0, 1, 2) = 0; join(1, 0, 1); same(0, 1, 2) = 2");
     bounds.hold("18 EDITIONS: only writers count", "2 * edition(0, 1, 0); 2 * person(1, 0, -100)",
         "share(0, 1, 9); share(1, 1, 9); same(0, 0, 1) = 1; share(0, 4, 9); share(1, 14, 9); same(0, 0, 1) = 1; share(0, 0, 9); same(0, 0, 1) = 1");
     bounds.hold("18 EDITIONS: writers that were JOINED are a common one", "2 * edition(0, 1, 0); 2 * person(1, 0, -100)",

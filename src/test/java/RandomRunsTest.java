@@ -1,5 +1,6 @@
 import java.lang.reflect.Method;
 import java.util.ArrayList;
+import java.util.Collections;
 import java.util.HashMap;
 import java.util.List;
 import java.util.Map;
@@ -7,6 +8,11 @@ import java.util.Random;
 
 /** Random runs, most of their calls fitting, held call by call against the plain model. */
 public final class RandomRunsTest {
+  /** Behind these there is room for status(), and then an object's calls are used up. */
+  private static final int MOST_LIVED = 505;
+  /** The last hundred and more are for what all YEARS have left behind. */
+  private static final int MOST_UNSWEPT = 380;
+
   private static final String SETTING = "library library draw person person person edition edition edition edition "
       + "share share share share share share heir heir join join join rule";
   private static final String LIVING = "lent lent put put put put all fund rule close "
@@ -23,13 +29,14 @@ public final class RandomRunsTest {
   private final PlainModel plain = new PlainModel();
   private final List<String> calls = new ArrayList<>();
   private boolean fine = true;
+  private int room = MOST_LIVED;
 
   private RandomRunsTest(long seed) {
     random = new Random(seed);
   }
 
   public static void main(String[] args) throws Exception {
-    int runs = args.length > 0 ? Integer.parseInt(args[0]) : 400;
+    int runs = args.length > 0 ? Integer.parseInt(args[0]) : 1000;
     long first = args.length > 1 ? Long.parseLong(args[1]) : 0;
     for (Method m : LoanPence.class.getDeclaredMethods()) {
       if (java.lang.reflect.Modifier.isPublic(m.getModifiers())) {
@@ -50,41 +57,45 @@ public final class RandomRunsTest {
     for (int i = 20 + random.nextInt(100); i > 0; i--) {
       one(chance(12) ? "died" : setting[random.nextInt(setting.length)]);
     }
-    for (int i = 100 + random.nextInt(300); i > 0 && fine; i--) {
+    while (fine && calls.size() < MOST_UNSWEPT) {
       if (chance(25)) {
         season();
       }
       one(living[random.nextInt(living.length)]);
     }
-    sweep();
-    sweepSame(0, plain.count(2));
-    sweepSame(1, plain.count(3));
-    for (int by = -8; fine && by <= -2; by++) {
+    List<Call> sweep = sweep();
+    Collections.shuffle(sweep, random);
+    for (Call c : sweep) {
+      call(c.name(), c.args());
+    }
+    room = Call.MOST;
+    for (int by = -8; by <= -2; by++) {
       call("status", by);
     }
     return fine;
   }
 
-  /** What all closed YEARS left behind. */
-  private void sweep() throws Exception {
+  /** What all closed YEARS left behind, and SAME of all pairs: single calls seldom meet two that are nearly alike. */
+  private List<Call> sweep() {
+    List<Call> asked = new ArrayList<>();
     for (int y = 0; y < plain.count(0); y++) {
       for (int what = 5; what <= 8; what++) {
-        call("year", y, what);
+        asked.add(new Call("year", y, what));
       }
       for (int p = 0; p < plain.count(3); p++) {
-        call("paid", y, p, 0);
-        call("paid", y, p, 3);
+        asked.add(new Call("paid", y, p, 0));
+        asked.add(new Call("paid", y, p, 3));
       }
     }
-  }
-
-  /** Single calls seldom meet two that are alike in all but one thing; all pairs do. */
-  private void sweepSame(int what, int many) throws Exception {
-    for (int a = 0; a < many; a++) {
-      for (int b = 0; b < many; b++) {
-        call("same", what, a, b);
+    for (int what = 0; what <= 1; what++) {
+      int many = plain.count(2 + what);
+      for (int a = 0; a < many; a++) {
+        for (int b = 0; b < many; b++) {
+          asked.add(new Call("same", what, a, b));
+        }
       }
     }
+    return asked;
   }
 
   /** A YEAR as it would be told by a land that pays. */
@@ -290,7 +301,7 @@ public final class RandomRunsTest {
   // ---- calls
 
   private void call(String name, int... args) throws Exception {
-    if (!fine) {
+    if (!fine || calls.size() >= room) {
       return;
     }
     Object[] boxed = new Object[args.length];

@@ -40,7 +40,7 @@ public final class RoomTest {
       x.died(i, -1 - i % 2);
     }
     rules(x);
-    for (int i = 0; i < 100; i++) {
+    for (int i = 0; i < 60; i++) {
       x.lent(i % 12, i % 30, 1 + i);
     }
     for (int i = 0; i < 10; i++) {
@@ -66,7 +66,7 @@ public final class RoomTest {
   }
 
   private static void asks(LoanPence x) {
-    for (int i = 0; i < 10; i++) {
+    for (int i = 0; i < 5; i++) {
       x.known(i, 100 * i + i, i);
       x.look(i, 3);
       x.year(i, i);

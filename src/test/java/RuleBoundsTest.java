@@ -105,9 +105,18 @@ public final class RuleBoundsTest {
     bounds.hold("22 no FAULT of \"" + text + "\"", "tape " + text, "rule(0, 1) = 0; count(7) = 0");
   }
 
+  /** The same WORD with one letter that is another one, at each place. */
+  private static void otherLetters(String before, String word, String behind) {
+    for (int i = 0; i < word.length(); i++) {
+      String other = word.substring(0, i) + (char) (word.charAt(i) == 'z' ? 'y' : word.charAt(i) + 1) + word.substring(i + 1);
+      faultOf(before + other + behind, before.length());
+    }
+  }
+
   private static void words() {
     for (String key : PlainRules.KEYS) {
       taken(key + " 1");
+      otherLetters("", key, " 1");
       faultOf(key + "e 1", 0);
       faultOf(key.substring(1) + " 1", 0);
       faultOf(key.substring(0, key.length() - 1) + " 1", 0);
@@ -116,6 +125,7 @@ public final class RuleBoundsTest {
     }
     for (String name : PlainRules.NAMES) {
       taken("who " + name);
+      otherLetters("who ", name, "");
       faultOf("who " + name + "z", 4);
       faultOf("who a" + name, 4);
       faultOf("who " + name.substring(0, name.length() - 1), 4);
@@ -123,11 +133,13 @@ public final class RuleBoundsTest {
     }
     for (String other : new String[] {"if", "or", "and"}) {
       taken("who 1 " + other + " 1");
+      otherLetters("who 1 ", other, " 1");
       faultOf("who 1 " + other + "f 1", 6);
       faultOf("who " + other + " 1", 4);
       faultOf(other + " 1", 0);
     }
     taken("who not 1");
+    otherLetters("who ", "not", " 1");
     faultOf("who nota 1", 4);
     faultOf("who no 1", 4);
     faultOf("not 1", 0);

@@ -88,7 +88,6 @@ public final class RulesTest {
 
   /** Each text with its FAULT. */
   private static void faults() {
-    LoanPence x = new LoanPence();
     String[] texts = {"", "   ", "x", "role 1", "if 1", "1", "(who 1)", " who", "who  ", "whom 1", "who 1 2",
       "who 1)", "who (1", "who (1 ", "who ()", "who 1 +", "who 1 + + 1", "who 1 * * 1", "who * 1", "who 1 = = 1",
       "who 1 = 2 = 3", "who 1 < 2 > 3", "who 1 = not 2", "who 1 + not 2", "who - not 2", "who 1 or", "who or 1",
@@ -105,8 +104,9 @@ public final class RulesTest {
       11, 20, 9, 4, 7, 0};
     due.is("22 texts and places", texts.length, places.length);
     for (int i = 0; i < texts.length && i < places.length; i++) {
-      due.is("22 rule of \"" + texts[i] + "\"", Tapes.rule(x, texts[i], 0, 1), -10 - places[i]);
+      due.is("22 rule of \"" + texts[i] + "\"", Tapes.rule(new LoanPence(), texts[i], 0, 1), -10 - places[i]);
     }
+    LoanPence x = new LoanPence();
     due.is("22 bytes above 127 begin none", feedByte(x, "who 1 ", 0xe9), -16);
     due.is("22 nor does 0", feedByte(x, "who 1 ", 0), -16);
     due.is("22 nor does 160", feedByte(x, "who 1", 160), -15);

@@ -38,7 +38,7 @@ final class Sight {
   }
 
   /** Something done, and what is asked then. */
-  record Deed(List<Call> done, List<Call> asked) {
+  record Deed(Call done, List<Call> asked) {
   }
 
   /** What shows that can't be asked: the bytes of THE TAPE, what the next YEAR is made of. */
@@ -53,7 +53,7 @@ final class Sight {
       years.add(new Call("year", open + 1, what));
     }
     years.add(new Call("bestDraw", 1));
-    return List.of(new Deed(List.of(new Call("rule", 0, 100)), says), new Deed(List.of(new Call("close")), years));
+    return List.of(new Deed(new Call("rule", 0, 100), says), new Deed(new Call("close"), years));
   }
 
   private void ask(String name, int... args) {

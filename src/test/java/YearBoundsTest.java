@@ -12,6 +12,8 @@ public final class YearBoundsTest {
     most();
     mostAgain();
     rests();
+    restsOfAnotherYear();
+    leastPoints();
     least();
     late();
     lateAsFarAsCanBe();
@@ -135,6 +137,22 @@ public final class YearBoundsTest {
     bounds.hold("26 who is out has no rest", land("most 40", 51, 70, 1, 1), "close() = 3; year(0, 8) = 0", paid(0, 0, 40, 6, 5));
   }
 
+  /** What one parting left behind is nothing to the next. */
+  private static void restsOfAnotherYear() {
+    // of 17: 6, 6 and 5 rests, so that PERSON 2's stays the greatest that nobody looked at
+    bounds.hold("26 rests are of that YEAR alone", land("", 1, 6, 6, 5), "close() = 1", paid(0, 0, 1, 0, 0), Lands.lent(1, 1, 0), "fund(1); close() = 1", paid(1, 0, 1, 0, 0));
+    bounds.hold("26 RULES of no SHARE: most, least", land("most parts/10,least parts", 81, 1, 1), "close() = 2; year(0, 8) = 0", paid(0, 0, 41, 40));
+  }
+
+  private static void leastPoints() {
+    // READ, an ESTIMATE of 1: 4 POINTS by PARTS
+    String one = "library(0, 1); draw(1); edition(4, 1, 0); 2 * person(1, 0, -9); lent(0, 0, 1); all(0, 1); fund(5);";
+    bounds.hold("26 of 1 POINT in all", one, "share(0, 0, 25); points(0, 0) = 1; close() = 1; year(0, 8) = 0", paid(0, 0, 5, 0));
+    bounds.hold("26 of 0 POINTS in all", one, "share(0, 0, 24); points(0, 0) = 0; close() = 0; year(0, 8) = 5", paid(0, 0, 0, 0));
+    bounds.hold("26 of 1 POINT and 2", one, "share(0, 0, 25); share(0, 10, 50); points(0, 1) = 2; close() = 2; year(0, 8) = 0", paid(0, 0, 2, 3));
+    bounds.hold("26 1 POINT and a MOST", one, "share(0, 0, 25); share(0, 10, 50); tape most 1; rule(0, 9); close() = 2; year(0, 8) = 3", paid(0, 0, 1, 1));
+  }
+
   private static void least() {
     bounds.hold("26 who gets less than what least SAYS gets nothing", land("least 20", 100, 70, 20, 10), "close() = 2; year(0, 8) = 10", paid(0, 0, 70, 20, 0));
     bounds.hold("26 least 21", land("least 21", 100, 70, 20, 10), "close() = 1; year(0, 8) = 30", paid(0, 0, 70, 0, 0));
@@ -184,6 +202,9 @@ public final class YearBoundsTest {
     bounds.hold("26 they are got of that YEAR: once", land("late 40", 100, 50, 50), "close(); put(0, 0, 0, 60); put(0, 0, 1, 40); fund(99); close() = 1; year(1, 7) = 10",
         "fund(99); close() = 0; year(2, 7) = 0; put(0, 0, 0, 61); put(0, 0, 1, 39); fund(99); close() = 1; year(3, 7) = 1", paid(0, 0, 61, 50));
     bounds.hold("26 a YEAR of which nothing was PARTED", land("late 1", 0, 50, 50), "close(); put(0, 0, 0, 60); fund(99); close() = 0; year(1, 7) = 0; year(1, 6) = 99");
+    bounds.hold("26 a YEAR of which one penny was PARTED", land("late 1", 1, 2, 1), "close() = 1; put(0, 0, 0, 0); fund(9); close() = 1; year(1, 7) = 1; year(1, 6) = 8", paid(0, 0, 1, 1));
+    bounds.hold("26 lacks of all 20", "library(0, 1); draw(1); 20 * edition(0, 1, 0)", Bounds.each(20, "person(1, 0, -9); share(#, #0, 100); lent(0, #, 1)"), "tape late 1; rule(0, 9)",
+        "all(0, 20); fund(20); close() = 20; put(0, 0, 19, 20); put(0, 0, 0, 0); fund(39); paid(0, 19, 1) = 10; close() = 1; year(1, 7) = 9; paid(0, 19, 0) = 10; paid(1, 19, 3) = 9");
     bounds.hold("26 late claims", Lands.SMALL, "edition(0, 2, 0); person(2, 0, -9); tape late 1; rule(0, 9)", Lands.lent(1, 1),
         "fund(10); close() = 1; share(1, 10, 100); fund(9); close() = 1; year(1, 7) = 5; year(1, 6) = 4", paid(0, 0, 10, 5));
   }
@@ -316,6 +337,9 @@ public final class YearBoundsTest {
     bounds.hold("29 what is left to nobody", two, "points(0, 0) = 0; points(0, 1) = 0; heir(0, 1, 50); heir(0, 2, 49); points(0, 1) = 1; points(0, 2) = 0; points(0, 0) = 0");
     bounds.hold("29 1 PART of 100", Lands.writers(2), Lands.lent(9, 0), "died(0, -1); heir(0, 1, 1); points(0, 1) = 1; close(); put(0, 0, 0, 8); all(0, 8); lent(0, 0, 8)",
         "points(1, 1) = 0; heir(0, 1, 2); points(1, 1) = 1; heir(0, 1, 0); points(1, 1) = 0");
+    bounds.hold("29 the first PERSON is an HEIR", Lands.writers(2), Lands.lent(0, 5), "died(1, -1); points(0, 0) = 0; heir(1, 0, 50); points(0, 0) = 30");
+    bounds.hold("29 the last PERSON is an HEIR, and has one", "library(0, 1); draw(1); edition(0, 1, 0); 20 * person(1, 0, -9); share(0, 180, 50); share(0, 190, 50)", Lands.lent(1),
+        "heir(18, 19, 50); heir(19, 0, 50); points(0, 18) = 6; points(0, 19) = 6; died(18, -1); points(0, 19) = 9; points(0, 0) = 0; died(19, -1); points(0, 19) = 0; points(0, 0) = 4");
     bounds.hold("29 HEIRS who live, and one who DIED in that YEAR", Lands.writers(3), Lands.lent(1, 0, 0), "died(0, -1); heir(0, 1, 100); heir(1, 2, 100)",
         "points(0, 1) = 12; died(1, 0); points(0, 1) = 12; died(1, -1); points(0, 1) = 0; points(0, 2) = 12");
   }
