@@ -26,7 +26,9 @@ final class Bounds {
     this.due = due;
   }
 
-  void hold(String sentence, String... texts) {
+  /** The sentence begins with the number of its promise. */
+  void hold(String numbered, String... texts) {
+    String sentence = "promise " + numbered;
     List<Row> rows = rowsOf(texts);
     int[] refused = new int[9];
     LoanPence x = new LoanPence();
@@ -51,10 +53,10 @@ final class Bounds {
   }
 
   /** Two ways that lead to lands of which all that can be asked is alike, but for status(). */
-  void alike(String sentence, String one, String other) {
+  void alike(String numbered, String one, String other) {
     List<Row> ofOne = rowsOf(new String[] {one});
     List<Row> ofOther = rowsOf(new String[] {other});
-    holdAlike(sentence, callsOf(ofOne, ofOne.size()), callsOf(ofOther, ofOther.size()));
+    holdAlike("promise " + numbered, callsOf(ofOne, ofOne.size()), callsOf(ofOther, ofOther.size()));
   }
 
   /** A text for each number below n, put in for the sign #. */
