@@ -19,6 +19,7 @@ public final class DrawBoundsTest {
     spanRefused();
     span();
     count();
+    keptNumbers();
     image();
     due.end();
   }
@@ -241,6 +242,32 @@ public final class DrawBoundsTest {
       + "heir(2, 3, 30); heir(0, 1, 10); heir(0, 2, 20); died(3, -3); died(0, -2);"
       + "join(0, 1, 0); person(8, 0, -100); join(1, 1, 4); all(0, 9); all(1, 70); fund(300);"
       + "close(); draw(13); lent(3, 3, 4); close(); fund(8);";
+
+  /** Each number that can be told anew: as it was once kept, and told anew behind that. */
+  private static void keptNumbers() {
+    String land = Lands.SMALL + "edition(0, 1, 0); person(1, 0, -100); library(0, 10); image();";
+    bounds.hold("39 a BOOK, a ONE", land, "join(0, 0, 1) = 0; join(1, 0, 1) = 0; count(8) = 1; count(9) = 1; back()",
+        "editionOf(1, 3) = 1; personOf(1, 4) = 1; count(8) = 2; count(9) = 2");
+    bounds.hold("39 DIED, PARTS of HEIRS", land, "died(0, -1) = -100; heir(0, 1, 100) = 0; back(); personOf(0, 3) = -100",
+        "personOf(0, 5) = 0; heir(0, 1, 1) = 0; died(0, 0) = -100");
+    bounds.hold("39 DRAWN ones, ALL, pence", land, "draw(2) = 1; all(0, 5) = 0; fund(6) = 0; back(); year(0, 0) = 1",
+        "all(0, 5) = 0; fund(6) = 0; draw(3) = 2");
+    bounds.hold("39 LOANS of an ENTRY", Lands.SMALL, "lent(0, 0, 3); image(); lent(0, 0, 4) = 7; back(); known(0, 0, 0) = 3",
+        "lent(0, 0, 1) = 4; count(6) = 1");
+    bounds.hold("39 what was PARTED, THE REST", land, "fund(6); close(); year(0, 6) = 6; year(0, 8) = 6; back()",
+        "year(0, 6) = 0; year(0, 8) = 0; close(); year(0, 6) = 0; year(1, 6) = 0");
+    // of YEAR 0 PERSON 0 lacks 50
+    bounds.hold("39 what was paid, and paid BACK", Lands.writers(2), "tape late 1; rule(0, 9)", Lands.lent(1, 1),
+        "fund(100); close(); put(0, 0, 1, 0); fund(60); image(); close() = 1; year(1, 7) = 50; paid(0, 0, 0) = 100; back()",
+        "year(1, 7) = 0; paid(0, 0, 0) = 50; paid(0, 0, 3) = 50; close() = 1; year(1, 7) = 50; paid(0, 0, 0) = 100",
+        "paid(1, 0, 3) = 50; year(1, 6) = 10");
+    bounds.hold("39 what comes in the place of what is gone", land, "library(1, 5) = 2; edition(1, 2, -3) = 2",
+        "person(2, 1, -4) = 2; share(1, 3, 7) = 1; tape most 5 if 1; rule(0, 9) = 0; lent(0, 1, 4); back()",
+        "library(2, 6) = 2; look(2, 0) = 2; look(2, 1) = 6; edition(3, 4, -5) = 2; editionOf(2, 0) = 3; editionOf(2, 1) = 4",
+        "person(5, 2, -6) = 2; personOf(2, 0) = 5; personOf(2, 2) = -6; share(0, 11, 0) = NO; share(1, 11, 8) = 1",
+        "shareOf(1, 1) = 1; shareOf(1, 3) = 8; tape least 6; rule(1, 9) = 0; why(3, 0, -1) = NONE; why(4, 0, -1) = NONE",
+        "lent(0, 0, 1) = 1; known(0, 1, 0) = 0; close(); why(4, 1, -1) = 0; says(4, 1, -1) = 6");
+  }
 
   private static void image() {
     bounds.hold("39 MISSING", "back() = MISSING; library(0, 1); back() = MISSING; count(1) = 1; image() = 0",

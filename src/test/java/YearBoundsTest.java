@@ -498,6 +498,9 @@ public final class YearBoundsTest {
   private static void paidAsKnown() {
     bounds.hold("30 as KNOWN now, as KNOWN in that YEAR", land("", 100, 1, 1), "close(); put(0, 0, 1, 0)",
         paid(0, 0, 50, 50), paid(0, 1, 100, 0), paid(0, 2, 50, 50));
+    // ALL of 4: 1 and 3 of it by LOANS of 1 and 3, 2 and 2 by LOANS of 2 and 3
+    bounds.hold("30 what who SAYS by loans as KNOWN then", land("who loans>1", 100, 1, 3), "close()",
+        "put(0, 0, 0, 2)", paid(0, 0, 0, 100), paid(0, 2, 0, 100), paid(0, 1, 50, 50));
     bounds.hold("30 BACK is got of its own YEAR, paid as the other closed", land("late 1", 100, 1, 1), "close()",
         "put(0, 0, 1, 0); fund(1)", Lands.lent(0, 1), "close() = 1", paid(0, 0, 51, 50), paid(0, 3, 50, 50),
         paid(1, 0, 0, 0), paid(1, 3, 1, 0));
