@@ -1,7 +1,7 @@
 import java.util.ArrayList;
 import java.util.List;
 
-/** What can be asked of an object but status(): two of which all this is alike are alike. */
+/** Questions of all that an object holds, but status(): two that answer them alike are taken for alike. */
 final class Sight {
   /** Large lands are looked at by so many questions, taken evenly from all of them. */
   private static final int MOST_ASKED = 700;
